@@ -165,6 +165,14 @@ public final class ForetoldTest {
         x.tip(0);
         x.go(7, 1);
         quick(x, 0, Check.NONE, Check.NONE);
+        // twelve hands, none of them hers
+        StringBuilder text = new StringBuilder("sea 20 0;boat 9 1 0 9;boat 9 1 0 9;boat 9 1 0 9;boat 9 1 0 9;");
+        for (int h = 0; h < 12; h++) {
+            text.append("hand ").append(h % 3).append(" 150 60;");
+        }
+        x = Check.of(text.toString());
+        x.tip(3);
+        quick(x, 3, Check.NONE, Check.NONE);
         // who can't is passed over: the next two are asked
         x = Check.of("sea 20 0;boat 10 2 5 20;hand 0 100 1;hand 0 20 60;hand 0 20 60;");
         x.tip(0);
