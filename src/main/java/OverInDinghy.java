@@ -1035,37 +1035,29 @@ public final class OverInDinghy {
         }
     }
 
-    /** QUICKEST: all rows of places for two hands, tried on a copy of the CLUB. */
+    /** QUICKEST: all that a row may tell for the first TICK, tried on a copy of the CLUB. */
     private static final class Search {
-        private static final int TOLD_TICKS = 3;
         private static final int MOST_TICKS = 20;
-        private static final int ROWS = 16 * 16 * 16;
-        private static final int LOW_BITS = 0x555;
-        private static final int BOAT_ITEMS = 3;
-        private static final int STRIDE = BOAT_ITEMS + 2 * MOST_HANDS;
+        private static final int TOLD = 16;
 
         final Club trial = new Club();
         final Draws still = new Draws();
-        final int[] kept = new int[TOLD_TICKS * STRIDE];
         int one;
         int two;
         int fewest;
         int places;
 
         void look(Club club, int boat) {
-            trial.become(club);
             fewest = MOST_TICKS + 1;
             places = NONE;
-            one = nextAble(boat, 0);
-            two = nextAble(boat, one + 1);
-            if (two >= trial.hands) {
+            one = nextAble(club, boat, 0);
+            two = nextAble(club, boat, one + 1);
+            if (two >= club.hands) {
                 return;
             }
-            keep(boat, 1);
-            for (int row = 0; row < ROWS; row++) {
-                if (!tellsWater(row)) {
-                    tryRow(boat, row);
-                }
+            for (int told = 0; told < TOLD; told++) {
+                trial.become(club);
+                tryFirst(boat, told);
             }
         }
 
@@ -1073,75 +1065,41 @@ public final class OverInDinghy {
             return fewest > MOST_TICKS ? NONE : fewest;
         }
 
-        private int nextAble(int boat, int from) {
-            for (int h = from; h < trial.hands; h++) {
-                if (trial.boatOf[h] == boat && trial.can(h)) {
+        private static int nextAble(Club club, int boat, int from) {
+            for (int h = from; h < club.hands; h++) {
+                if (club.isHandOf(h, boat) && club.can(h)) {
                     return h;
                 }
             }
-            return trial.hands;
+            return club.hands;
         }
 
         /**
-         * Whether one of the row's six figures to the base of 4 is 1. Such a row is never the one:
-         * told 0 instead, a hand does the same, bails too, gets no colder, and 0 comes first.
+         * The rows that tell this first. Masts only fill and hands only get colder, so places that do not bring her up
+         * in the first TICK win nothing by coming later than in a row that begins with them. Once she is up, nobody does
+         * more, or gets less cold, than in her. So of these rows none is quicker than the first, which tells 0 from then on.
          */
-        private static boolean tellsWater(int row) {
-            return (row & ~(row >> 1) & LOW_BITS) != 0;
-        }
-
-        private void tryRow(int boat, int row) {
-            // the ticks that this row begins with as the one before did are not run again
-            int from = row % 256 == 0 ? 1 : row % 16 == 0 ? 2 : TOLD_TICKS;
-            bringBack(boat, from);
-            for (int tick = from; tick < fewest; tick++) {
-                int how = trial.how[boat];
-                int water = trial.water[boat];
-                if (isUpBehind(boat, toldFor(row, tick))) {
+        private void tryFirst(int boat, int told) {
+            goOn(boat, told);
+            for (int tick = 2; tick < fewest && trial.how[boat] == SWAMPED; tick++) {
+                goOn(boat, 0);
+                if (trial.how[boat] == UP) {
                     fewest = tick;
-                    places = row / 256;
-                } else if (tick < TOLD_TICKS) {
-                    keep(boat, tick + 1);
-                } else if (trial.how[boat] == how && trial.water[boat] == water) {
-                    // the places stay and nobody gets stronger: what did not help now never will
-                    return;
+                    places = told;
                 }
             }
         }
 
-        private static int toldFor(int row, int tick) {
-            return tick == 1 ? row / 256 : tick == 2 ? row / 16 % 16 : row % 16;
-        }
-
-        private boolean isUpBehind(int boat, int told) {
+        private void goOn(int boat, int told) {
             send(one, boat, told / 4);
             send(two, boat, told % 4);
             trial.tickBoat(boat, still);
-            return trial.how[boat] == UP;
         }
 
         private void send(int hand, int boat, int place) {
             if (trial.can(hand)) {
                 trial.spot[hand] = place == IN_HER && trial.isOver(boat) ? BESIDE : place;
             }
-        }
-
-        private void keep(int boat, int tick) {
-            int at = (tick - 1) * STRIDE;
-            kept[at] = trial.how[boat];
-            kept[at + 1] = trial.mast[boat];
-            kept[at + 2] = trial.water[boat];
-            System.arraycopy(trial.spot, 0, kept, at + BOAT_ITEMS, MOST_HANDS);
-            System.arraycopy(trial.grip, 0, kept, at + BOAT_ITEMS + MOST_HANDS, MOST_HANDS);
-        }
-
-        private void bringBack(int boat, int tick) {
-            int at = (tick - 1) * STRIDE;
-            trial.how[boat] = kept[at];
-            trial.mast[boat] = kept[at + 1];
-            trial.water[boat] = kept[at + 2];
-            System.arraycopy(kept, at + BOAT_ITEMS, trial.spot, 0, MOST_HANDS);
-            System.arraycopy(kept, at + BOAT_ITEMS + MOST_HANDS, trial.grip, 0, MOST_HANDS);
         }
     }
 

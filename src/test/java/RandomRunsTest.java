@@ -1,21 +1,25 @@
 import java.util.Random;
 
-/** Promises 1 to 31 at once: random runs of 512 calls, asked of the class and of the plain model. */
+/** Promises 1 to 31 at once: random runs of at most 512 calls, asked of the class and of the plain model. */
 public final class RandomRunsTest {
-    private static final int RUNS = Integer.getInteger("dinghy.runs", 400);
+    private static final int RUNS = Integer.getInteger("dinghy.runs", 2500);
+    // the longest step feeds a text of some 400 bytes, 3 at a time
+    private static final int LAST_STEP = 512 - 150;
 
     private static Random random;
     private static OverInDinghy x;
     private static Model y;
     private static int run;
+    private static int calls;
 
     public static void main(String[] args) {
         for (run = 0; run < RUNS; run++) {
             random = new Random(run);
             x = new OverInDinghy();
             y = new Model();
-            for (int call = 0; call < 512; call++) {
-                oneCall();
+            calls = 0;
+            while (calls < LAST_STEP) {
+                oneStep();
             }
         }
         Check.end();
@@ -41,10 +45,11 @@ public final class RandomRunsTest {
     }
 
     private static void due(String call, long got, long want) {
+        calls++;
         Check.due("run " + run + ": " + call, got, want);
     }
 
-    private static void oneCall() {
+    private static void oneStep() {
         int die = random.nextInt(100);
         if (die < 3 || y.count(1) == 0 && die < 40) {
             read();
@@ -63,7 +68,7 @@ public final class RandomRunsTest {
     private static void read() {
         String text = text();
         for (int at = 0; at < text.length(); ) {
-            int n = Math.min(within(1, 8), text.length() - at);
+            int n = Math.min(within(3, 8), text.length() - at);
             long w = random.nextLong();
             for (int i = 0; i < n; i++) {
                 w = w << 8 | text.charAt(at + i);

@@ -12,17 +12,30 @@ final class Check {
     static final long NONE = -1000000;
 
     private static int wrong;
+    private static int made;
+    private static String about = "";
 
     private Check() {
     }
 
     static void due(String call, long got, long want) {
+        made++;
         if (got != want) {
             wrong++;
             if (wrong <= 50) {
-                System.out.println(call + " answered " + got + ", due is " + want);
+                System.out.println(about + call + " answered " + got + ", due is " + want);
             }
         }
+    }
+
+    /** What stands ahead of each wrong answer from now on. */
+    static void about(String what) {
+        about = what;
+    }
+
+    /** How many answers were looked at. */
+    static int made() {
+        return made;
     }
 
     static void holds(String what, boolean so) {
