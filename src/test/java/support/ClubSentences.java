@@ -120,6 +120,15 @@ final class ClubSentences {
         order(x, 2, 1, 11 + 2 * 7 + 3 * 3, 4, 5, 2, 3, 0, 1);
         Check.items(x, 0, 6, 5, 4, 3, 2, 1);
         order(x, 2, 1, 11 + 2 * 7 + 3 * 3, 0, 1, 2, 3, 4, 5);
+        // an odd one has nobody beside
+        for (int n = 1; n <= 5; n += 2) {
+            x = boats(n);
+            x.row(0, 0, n);
+            x.set(0, 0, 1);
+            Check.due("the last of " + n, x.first(0, 2, 1, n - 1), n - 1);
+            x.set(0, n - 1, 2);
+            Check.due("the first of " + n, x.first(0, 2, 1, 0), 0);
+        }
     }
 
     private static void headsAre(OverInDinghy x, long lack, long more, long all) {

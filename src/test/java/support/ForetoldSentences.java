@@ -103,11 +103,22 @@ final class ForetoldSentences {
         x.place(4, 3);
         x.place(1, 2);
         sets(x, 1, 70, -1, 6, 16, 18, 20, 22);
+        sets(x, 1, 71, -1, 18, 20, 22);
         x.tip(1);
         x.go(7, 57);
         Check.due("he can't", x.hand(1, 3), 0);
         sets(x, 1, 0, -1, 4, 16, 20);
         sets(x, 1, 0, 2, 16);
+        // nor does the mast that she has
+        OverInDinghy mast = tipped("sea 20 0;boat 10 4 0 0;hand 0 40 60;hand 0 50 60;");
+        mast.go(1, 1);
+        Check.due("a mast of 20", mast.boat(0, 1), 20);
+        sets(mast, 0, 0, -1, 1, 2, 3);
+        sets(mast, 0, 1, -1, 2, 3);
+        mast.go(4, 1);
+        Check.due("turned", mast.boat(0, 0), 2);
+        sets(mast, 0, 10, -1, 2, 3);
+        sets(mast, 0, 11, -1, 3);
         // the lever is one sum, cut: 25 and 25 times 3 by 10 is 15, each alone 7
         OverInDinghy y = Check.of("sea 20 0;boat 3 1 0 20;hand 0 25 60;hand 0 25 60;hand 0 33 60;hand 0 34 60;");
         sets(y, 0, 0, -1, 3, 5, 6, 7, 8, 9, 10, 11, 12, 13, 14, 15);

@@ -136,6 +136,27 @@ final class TickSentences {
         Check.due("he can't", x.place(0, 1), Check.STATE);
         Check.due("no lever", x.boat(0, 4), 0);
         Check.due("one can't", x.count(5), 1);
+        // by 1 he holds the bow, too
+        x = Check.of("sea 10 3;boat 30 1 0 20;hand 0 50 6;");
+        x.tip(0);
+        x.place(0, 3);
+        x.go(37, 1);
+        Check.due("1", x.hand(0, 3), 1);
+        Check.due("he holds the bow", x.boat(0, 3), 10);
+        x.go(1, 1);
+        Check.due("no more", x.boat(0, 3), 16);
+        // and bails
+        x = Check.of("sea 10 0;boat 30 1 0 20;hand 0 150 6;");
+        x.tip(0);
+        x.go(36, 1);
+        x.place(0, 2);
+        x.go(1, 1);
+        is(x, 0, 4, 0, 70);
+        Check.due("1", x.hand(0, 3), 1);
+        x.go(1, 1);
+        is(x, 0, 4, 0, 65);
+        x.go(1, 1);
+        is(x, 0, 4, 0, 65);
     }
 
     /** By wind 40 and one sail a gust is 40 and the rest; a beam of 1 is 5: a hand of 35 and the rest just holds her. */
