@@ -221,27 +221,32 @@ final class ClubSentences {
     }
 
     private static void sizes() {
-        Doc.says("0 SIZE: 10 lent to all BOATS: WATER. 11 of LYING ones: what 10 gives, and MARK. 12 of ROUND ones: what 11 gives, twice. "
-                + "13 of SWAMPED ones: 0 less what 10 gives. 14 of HELD ones: what 12 gives, and 1000.");
         OverInDinghy x = five();
+        Doc.says("0 SIZE: 10 lent to all BOATS: WATER.");
         asked(x, 0, 0, 0, 10);
+        Doc.says("11 of LYING ones: what 10 gives, and MARK.");
         asked(x, 1, 0, 1 + 7, 11, 10, 21, 20);
+        Doc.says("12 of ROUND ones: what 11 gives, twice.");
         asked(x, 2, 0, 2 * (2 + 100), 12, 11, 10, 21, 20);
-        asked(x, 3, 0, 2 * (3 + 100 - 500) + 1000, 14, 12, 11, 10, 22, 21, 20);
+        Doc.says("13 of SWAMPED ones: 0 less what 10 gives.");
         asked(x, 4, 0, -64, 13, 10);
+        Doc.says("14 of HELD ones: what 12 gives, and 1000.");
+        asked(x, 3, 0, 2 * (3 + 100 - 500) + 1000, 14, 12, 11, 10, 22, 21, 20);
     }
 
     private static void marks() {
-        Doc.says("1 MARK: 20 lent to all BOATS: its number. 21 of LYING ones: what 20 gives, and MAST. 22 of HELD ones: what 21 gives, less 500. "
-                + "23 of DRY ones: what 20 gives, less SIZE. 24 of SWAMPED ones: what 20 gives, and SIZE.");
         OverInDinghy x = five();
-        asked(x, 0, 1, 0, 23, 20, 10);
+        Doc.says("1 MARK: 20 lent to all BOATS: its number.");
+        asked(boats(6), 5, 1, 5, 23, 20, 10);
+        Doc.says("21 of LYING ones: what 20 gives, and MAST.");
         asked(x, 1, 1, 1 + 7, 21, 20);
         asked(x, 2, 1, 2 + 100, 21, 20);
+        Doc.says("22 of HELD ones: what 21 gives, less 500.");
         asked(x, 3, 1, 3 + 100 - 500, 22, 21, 20);
+        Doc.says("23 of DRY ones: what 20 gives, less SIZE.");
+        asked(x, 0, 1, 0, 23, 20, 10);
+        Doc.says("24 of SWAMPED ones: what 20 gives, and SIZE.");
         asked(x, 4, 1, 4 - 64, 24, 20, 13, 10);
-        OverInDinghy six = boats(6);
-        asked(six, 5, 1, 5, 23, 20, 10);
     }
 
     private static void nearest() {
